@@ -136,6 +136,10 @@ public final class TradeTest {
         c.due("refused sell", x.digest(), before);
         c.due("holder after FULL", x.holder(11), 0);
         c.due("sales", x.count(1), 80);
+        c.due("all stand", x.count(2), 80);
+        c.due("rose over sales 0 and 77", x.rose(0), 77);
+        c.due("rose of one that was never sold", x.rose(11), 0);
+        c.due("gains even out", x.gain(0) + x.gain(1), 0);
         c.due("back of the last", x.back(x.sale(79, 0)), x.sale(79, 1));
         c.due("FULL, though one does not stand", x.sell(11, 1, 1, 0), FULL);
         c.due("the last sale", x.sale(79, 3), 79);

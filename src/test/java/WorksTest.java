@@ -131,6 +131,17 @@ public final class WorksTest {
         c.due("apart, all but the last", pieceOf(1, 2, 4, 8, 16).apart(0), 15);
         c.due("apart, all but one with years", pieceOf(3, 1, 3, 3, 3).apart(0), 29);
         c.due("apart, none without works", pieceOf(3, 0, 3).apart(0), 5);
+        DawnFair full = new DawnFair();
+        for (int i = 0; i < 12; i++) {
+            full.thing(5);
+            full.part(i, 0, 1 << i % 2);
+        }
+        full.work(0, 1600, 1700);
+        full.work(1, 1701, 1800);
+        for (int i = 0; i < 12; i++) {
+            c.due("a thing beside others", full.apart(i), 0);
+            c.due("a thing beside others", full.date(i, 1), i % 2 == 0 ? 1700 : 1800);
+        }
         DawnFair x = pieceOf(1, 2);
         for (int bad : new int[] {-1, 1, 12, MAX, MIN}) {
             c.due("apart BAD", x.apart(bad), BAD);
