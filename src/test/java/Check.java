@@ -12,6 +12,14 @@ final class Check {
         this.test = test;
     }
 
+    static DawnFair withThings(int n) {
+        DawnFair x = new DawnFair();
+        for (int i = 0; i < n; i++) {
+            x.thing(1);
+        }
+        return x;
+    }
+
     void due(String what, long got, long want) {
         made++;
         if (got != want) {

@@ -19,14 +19,6 @@ public final class ListsTest {
         c.end();
     }
 
-    private static DawnFair withThings(int n) {
-        DawnFair x = new DawnFair();
-        for (int i = 0; i < n; i++) {
-            x.thing(1);
-        }
-        return x;
-    }
-
     private static void see(DawnFair x, int thing, int marks) {
         for (int mark = 0; mark < 12; mark++) {
             x.mark(thing, mark, marks >> mark & 1);
@@ -51,7 +43,7 @@ public final class ListsTest {
     }
 
     private static void mark() {
-        DawnFair x = withThings(2);
+        DawnFair x = Check.withThings(2);
         c.due("mark seen", x.mark(0, 11, 1), 0);
         c.due("mark lacked", x.mark(0, 11, 2), 1);
         c.due("mark seen again", x.mark(0, 11, 1), 2);
@@ -70,7 +62,7 @@ public final class ListsTest {
     }
 
     private static void score() {
-        DawnFair x = withThings(2);
+        DawnFair x = Check.withThings(2);
         x.entry(0b0111);
         x.entry(0);
         c.due("score of nothing", x.score(0, 0), 0);
@@ -107,7 +99,7 @@ public final class ListsTest {
     }
 
     private static void joinedInOrder() {
-        DawnFair x = withThings(12);
+        DawnFair x = Check.withThings(12);
         for (int i = 0; i < 6; i++) {
             x.entry(1);
         }
@@ -123,19 +115,19 @@ public final class ListsTest {
     }
 
     private static void joinedByGreatestSum() {
-        DawnFair x = withThings(2);
+        DawnFair x = Check.withThings(2);
         x.entry(0b0011);
         x.entry(0b1111);
         see(x, 0, 0b1011);
         see(x, 1, 0b0011);
         // scores: entry 0: 3 and 4, entry 1: 6 and 4
         joinedIs("the greatest sum", x, 10, 1, 0);
-        DawnFair y = withThings(1);
+        DawnFair y = Check.withThings(1);
         y.entry(0b0011);
         y.entry(0b0111);
         see(y, 0, 0b0111);
         joinedIs("the better one, though it is behind", y, 6, NONE, 0);
-        DawnFair z = withThings(12);
+        DawnFair z = Check.withThings(12);
         for (int i = 0; i < 6; i++) {
             z.entry(4095);
         }
@@ -146,7 +138,7 @@ public final class ListsTest {
     }
 
     private static void joinedNeverByNothing() {
-        DawnFair x = withThings(2);
+        DawnFair x = Check.withThings(2);
         x.entry(0b0001);
         x.entry(0b0010);
         see(x, 0, 0b1101);
@@ -158,7 +150,7 @@ public final class ListsTest {
     }
 
     private static void joinedRefused() {
-        DawnFair x = withThings(1);
+        DawnFair x = Check.withThings(1);
         c.due("joinedTo BAD", x.joinedTo(0), BAD);
         see(x, 0, 1);
         for (int i = 0; i < 6; i++) {

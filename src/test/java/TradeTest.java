@@ -18,16 +18,8 @@ public final class TradeTest {
         c.end();
     }
 
-    private static DawnFair withThings(int n) {
-        DawnFair x = new DawnFair();
-        for (int i = 0; i < n; i++) {
-            x.thing(1);
-        }
-        return x;
-    }
-
     private static void hold() {
-        DawnFair x = withThings(2);
+        DawnFair x = Check.withThings(2);
         c.due("holder at first", x.holder(0), NONE);
         c.due("hold", x.hold(0, 7), NONE);
         c.due("holder", x.holder(0), 7);
@@ -49,7 +41,7 @@ public final class TradeTest {
     }
 
     private static void holdCutsOldTerms() {
-        DawnFair x = withThings(1);
+        DawnFair x = Check.withThings(1);
         x.hold(0, 1);
         x.sell(0, 2, 50, 100);
         c.due("hold by the buyer himself", x.hold(0, 2), 2);
@@ -79,7 +71,7 @@ public final class TradeTest {
     }
 
     private static void sell() {
-        DawnFair x = withThings(3);
+        DawnFair x = Check.withThings(3);
         x.hold(0, 1);
         x.hold(1, 1);
         c.due("sell", x.sell(0, 2, 0, 0), 0);
@@ -110,14 +102,14 @@ public final class TradeTest {
     }
 
     private static void sellRefusedInOrder() {
-        DawnFair x = withThings(1);
+        DawnFair x = Check.withThings(1);
         c.due("BAD ahead of NO", x.sell(0, 3, 100001, 0), BAD);
         c.due("BAD ahead of NO", x.sell(0, 3, 1, 2001), BAD);
         c.due("NO", x.sell(0, 3, 1, 0), NO);
     }
 
     private static void sellFull() {
-        DawnFair x = withThings(12);
+        DawnFair x = Check.withThings(12);
         for (int i = 0; i < 12; i++) {
             x.hold(i, 0);
         }
@@ -147,7 +139,7 @@ public final class TradeTest {
     }
 
     private static void back() {
-        DawnFair x = withThings(2);
+        DawnFair x = Check.withThings(2);
         for (int bad : new int[] {-1, 2, 12, MAX, MIN}) {
             c.due("back BAD", x.back(bad), BAD);
         }
@@ -171,7 +163,7 @@ public final class TradeTest {
     }
 
     private static void backInChain() {
-        DawnFair x = withThings(2);
+        DawnFair x = Check.withThings(2);
         x.hold(0, 1);
         x.hold(1, 1);
         x.sell(0, 2, 10, 40);
@@ -196,7 +188,7 @@ public final class TradeTest {
     }
 
     private static void sale() {
-        DawnFair x = withThings(5);
+        DawnFair x = Check.withThings(5);
         x.hold(4, 6);
         x.hours(3);
         x.sell(4, 5, 12345, 999);
@@ -222,7 +214,7 @@ public final class TradeTest {
     }
 
     private static void gainAndRose() {
-        DawnFair x = withThings(2);
+        DawnFair x = Check.withThings(2);
         x.hold(0, 0);
         x.hold(1, 1);
         c.due("rose without a sale", x.rose(0), 0);
