@@ -606,7 +606,7 @@ public final class DawnFair {
             int ofB = tally(a, b, 2);
             int together = tally(a, b, 3);
             long ways = 0;
-            for (int k = Math.max(0, ofA + ofB - n); k <= together; k++) {
+            for (int k = 0; k <= together; k++) {
                 ways += choose(ofA, k) * choose(n - ofA, ofB - k);
             }
             return ways;
@@ -615,8 +615,9 @@ public final class DawnFair {
         int shyestTwo() {
             int bestA = 0;
             int bestB = 1;
-            long bestAbove = waysAsShy(0, 1);
-            long bestBelow = allWays(0, 1);
+            // No chance is above 1 by 1, and the first two stay if all are like it.
+            long bestAbove = 1;
+            long bestBelow = 1;
             for (int a = 0; a < DEALERS; a++) {
                 for (int b = a + 1; b < DEALERS; b++) {
                     long above = waysAsShy(a, b);

@@ -14,19 +14,29 @@ public final class FaceTest {
         "int entry 1", "int mark 3", "int score 2", "int joined 0", "int joinedTo 1",
         "int owe 3", "int net 1", "int fall 2", "int count 1", "long digest 0"};
 
+    private static final Check c = new Check("FaceTest");
+
     public static void main(String[] args) {
-        Check c = new Check("FaceTest");
+        constants();
+        face();
+        newObject();
+        yearsAtFirst();
+        heldByNoneAtFirst();
+        hourAtFirst();
+        objectsAreApart();
+        lastPromisedCall();
+        laterCalls();
+        c.endOf(1, 1);
+    }
+
+    private static void constants() {
         c.due("NONE", DawnFair.NONE, -1);
         c.due("BAD", DawnFair.BAD, -2);
         c.due("NO", DawnFair.NO, -3);
         c.due("FULL", DawnFair.FULL, -4);
-        face(c);
-        newObject(c);
-        objectsAreApart(c);
-        c.end();
     }
 
-    private static void face(Check c) {
+    private static void face() {
         c.holds("the class is public and final", Modifier.isPublic(DawnFair.class.getModifiers())
             && Modifier.isFinal(DawnFair.class.getModifiers()));
         Set<String> want = new TreeSet<>(Set.of(FACE));
@@ -54,30 +64,59 @@ public final class FaceTest {
         c.holds("one public constructor", made.length == 1 && Modifier.isPublic(made[0].getModifiers()));
     }
 
-    private static void newObject(Check c) {
+    private static void newObject() {
+        c.promise(1, "As told; no THINGS, SALES, LOTS, ENTRIES, DEBTS.");
         DawnFair x = new DawnFair();
-        for (int what = 0; what <= 6; what++) {
-            c.due("new count(" + what + ")", x.count(what), what == 5 ? 4 : 0);
+        int[] none = {0, 1, 2, 3, 4, 6};
+        for (int what : none) {
+            c.due("count(" + what + ")", x.count(what), 0);
         }
-        c.due("new holder(0)", x.holder(0), Check.BAD);
-        c.due("new sale(0, 0)", x.sale(0, 0), Check.NONE);
-        c.due("new score(0, 0)", x.score(0, 0), Check.BAD_SCORE);
-        c.due("new joined()", x.joined(), 0);
-        c.due("new shyest()", x.shyest(), 1);
+        c.due("no thing", x.holder(0), Check.BAD);
+        c.due("no sale", x.sale(0, 0), Check.NONE);
+        c.due("no entry", x.joinedTo(0), Check.BAD);
+        c.due("nothing joined", x.joined(), 0);
+        c.due("no lots", x.both(0, 1, 0), 0);
         for (int a = 0; a < 8; a++) {
-            c.due("new gain", x.gain(a), 0);
-            c.due("new net", x.net(a), 0);
-            c.due("new fall", x.fall(a, 0), 1 << a);
+            c.due("gain", x.gain(a), 0);
+            c.due("net", x.net(a), 0);
+            c.due("fall", x.fall(a, 0), 1 << a);
         }
+        c.due("the first thing", x.thing(1), 0);
+        x.hold(0, 0);
+        c.due("the first sale", x.sell(0, 1, 0, 0), 0);
+        c.due("the first lot", x.lot(1, 1, 0), 0);
+        c.due("the first entry", x.entry(0), 0);
+        c.due("the first debt", x.owe(0, 1, 1), 0);
+    }
+
+    private static void yearsAtFirst() {
+        c.promise(1, "(1600 .. 1950; all of these at first)");
+        DawnFair x = new DawnFair();
         x.thing(5);
         for (int w = 0; w < 10; w++) {
             x.part(0, 0, 1 << w);
-            c.due("new years of " + w, x.span(0, 0, 0), 1600);
-            c.due("new years of " + w, x.span(0, 0, 1), 1950);
+            c.due("the first year of work " + w, x.span(0, 0, 0), 1600);
+            c.due("the last year of work " + w, x.span(0, 0, 1), 1950);
         }
     }
 
-    private static void objectsAreApart(Check c) {
+    private static void heldByNoneAtFirst() {
+        c.promise(1, "or by none (at first)");
+        DawnFair x = Check.withThings(12);
+        for (int i = 0; i < 12; i++) {
+            c.due("holder(" + i + ")", x.holder(i), Check.NONE);
+        }
+    }
+
+    private static void hourAtFirst() {
+        c.promise(1, "THE HOUR is 4 at first.");
+        DawnFair x = new DawnFair();
+        c.due("THE HOUR", x.count(5), 4);
+        c.due("an hour later", x.hours(1), 5);
+    }
+
+    private static void objectsAreApart() {
+        c.promise(1, "A new object");
         DawnFair x = new DawnFair();
         long before = x.digest();
         DawnFair y = new DawnFair();
@@ -89,5 +128,33 @@ public final class FaceTest {
         y.entry(1);
         y.owe(0, 1, 5);
         c.due("another object's digest", x.digest(), before);
+        c.due("the digest of one made later", new DawnFair().digest(), before);
+    }
+
+    private static void lastPromisedCall() {
+        c.promise(1, "An object is used for at most 512 calls after it has been made");
+        DawnFair x = new DawnFair();
+        for (int call = 1; call <= 511; call++) {
+            x.thing(5);
+        }
+        c.due("call 512", x.count(0), 12);
+    }
+
+    /** Nothing is promised of what later calls answer, but the language lets none throw: that would end the test. */
+    private static void laterCalls() {
+        c.promise(1, "what later calls answer is free.");
+        DawnFair x = Check.withThings(12);
+        for (int round = 0; round < 2000; round++) {
+            x.hours(20);
+            x.hold(round % 12, round % 8);
+            x.sell(round % 12, (round + 1) % 8, round, 0);
+            x.back(round % 12);
+            x.lot(255, 255, round % 8);
+            x.entry(round);
+            x.joinedTo(round % 10);
+            x.shyest();
+            x.digest();
+        }
+        c.due("a call after all of these", x.hours(0), Check.BAD);
     }
 }
