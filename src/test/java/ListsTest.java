@@ -34,6 +34,7 @@ public final class ListsTest {
         netOfDealers();
         netBad();
         fallOfOne();
+        fallPaysNothing();
         fallBelow();
         fallInRounds();
         fallTillNoneDoes();
@@ -397,6 +398,16 @@ public final class ListsTest {
         long before = x.digest();
         c.due("one that owes falls without any cause", x.fall(7, 0), 128 + 1);
         c.due("nothing is changed by it", x.digest(), before);
+    }
+
+    private static void fallPaysNothing() {
+        c.promise(28, "it pays nothing");
+        DawnFair x = new DawnFair();
+        x.owe(0, 1, 50);
+        x.owe(1, 2, 100);
+        c.due("what it has would have been enough", x.fall(0, 50), 3);
+        c.due("the other two stand by it", x.fall(2, 50), 4);
+        c.due("it falls with the most money too", x.fall(0, 100000), 1);
     }
 
     private static void fallBelow() {

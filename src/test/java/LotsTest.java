@@ -41,6 +41,14 @@ public final class LotsTest {
         }
     }
 
+    private static Check.Call adding(DawnFair x) {
+        return n -> x.lot(n[0], n[1], n[2]);
+    }
+
+    private static Check.Call sharing(DawnFair x) {
+        return n -> x.inside(n[0], n[1], n[2], n[3]);
+    }
+
     private static void lotNumbers() {
         c.promise(16, "A LOT: its number.");
         DawnFair x = new DawnFair();
@@ -53,9 +61,9 @@ public final class LotsTest {
     private static void lotBits() {
         c.promise(16, "BAD: bits 0 .. 255");
         DawnFair x = new DawnFair();
-        c.refused(x, n -> x.lot(n[0], n[1], n[2]), BAD, Check.told(255, 0, NONE), 0, -1, 256, 511, MIN, MAX);
-        c.refused(x, n -> x.lot(n[0], n[1], n[2]), BAD, Check.told(255, 1, 0), 0, -1, 256, 511, MIN, MAX);
-        c.refused(x, n -> x.lot(n[0], n[1], n[2]), BAD, Check.told(255, 1, 0), 1, -1, 256, 257, MIN, MAX);
+        c.refused(x, adding(x), BAD, Check.told(255, 0, NONE), 0, -1, 256, 511, MIN, MAX);
+        c.refused(x, adding(x), BAD, Check.told(255, 1, 0), 0, -1, 256, 511, MIN, MAX);
+        c.refused(x, adding(x), BAD, Check.told(255, 1, 0), 1, -1, 256, 257, MIN, MAX);
         c.due("bid beyond, there too", x.lot(511, 256, 8), BAD);
         c.due("bid below, there too", x.lot(-1, -1, 0), BAD);
         c.due("the least", x.lot(0, 0, NONE), 0);
@@ -65,7 +73,7 @@ public final class LotsTest {
     private static void lotBidOfOthers() {
         c.promise(16, "bid of others than there");
         DawnFair x = new DawnFair();
-        c.refused(x, n -> x.lot(n[0], n[1], n[2]), BAD, Check.told(3, 1, 0), 1, 5, 7, 129, 255);
+        c.refused(x, adding(x), BAD, Check.told(3, 1, 0), 1, 5, 7, 129, 255);
         c.due("bid of none there", x.lot(3, 4, 2), BAD);
         c.due("nobody was there", x.lot(0, 1, 0), BAD);
         c.due("bid of all there", x.lot(3, 3, 0), 0);
@@ -74,7 +82,7 @@ public final class LotsTest {
     private static void lotWonByNoneOfThese() {
         c.promise(16, "won by none of these");
         DawnFair x = new DawnFair();
-        c.refused(x, n -> x.lot(n[0], n[1], n[2]), BAD, Check.told(7, 5, 0), 2, 1, 3, 7, 8, 32, 34, NONE, -2, -32, MIN, MAX);
+        c.refused(x, adding(x), BAD, Check.told(7, 5, 0), 2, 1, 3, 7, 8, 32, 34, NONE, -2, -32, MIN, MAX);
         c.due("by the first that bid", x.lot(7, 5, 0), 0);
         c.due("by the last that bid", x.lot(7, 5, 2), 1);
         c.due("by the last of all", x.lot(255, 128, 7), 2);
@@ -83,7 +91,7 @@ public final class LotsTest {
     private static void lotWithoutBids() {
         c.promise(16, "(NONE if none bid)");
         DawnFair x = new DawnFair();
-        c.refused(x, n -> x.lot(n[0], n[1], n[2]), BAD, Check.told(255, 0, NONE), 2, 0, 1, 7, 8, -2, MIN, MAX);
+        c.refused(x, adding(x), BAD, Check.told(255, 0, NONE), 2, 0, 1, 7, 8, -2, MIN, MAX);
         c.due("won by none", x.lot(255, 0, NONE), 0);
         c.due("one bid, won by none", x.lot(255, 1, NONE), BAD);
     }
@@ -94,7 +102,7 @@ public final class LotsTest {
         for (int i = 0; i < 40; i++) {
             c.due("lot", x.lot(3, 2, 1), i);
         }
-        c.refused(x, n -> x.lot(n[0], n[1], n[2]), FULL, Check.told(3, 2, 1), 0, 2, 3, 255);
+        c.refused(x, adding(x), FULL, Check.told(3, 2, 1), 0, 2, 3, 255);
         c.due("lots", x.count(3), 40);
         c.due("lots of both", x.both(0, 1, 0), 40);
     }
@@ -366,7 +374,7 @@ public final class LotsTest {
     private static void insideOfTwoOrMore() {
         c.promise(20, "BAD: also fewer than two");
         DawnFair x = new DawnFair();
-        c.refused(x, n -> x.inside(n[0], n[1], n[2], n[3]), BAD, Check.told(3, 1, 9, 0), 0,
+        c.refused(x, sharing(x), BAD, Check.told(3, 1, 9, 0), 0,
             0, 1, 2, 64, 128, -1, -2, 256, 257, 259, MIN, MAX);
         insideIs("the least two", 3, 1, 9, 4, 4);
         insideIs("the greatest two", 192, 1, 9, 4, 4);
@@ -376,8 +384,8 @@ public final class LotsTest {
     private static void insideNoLess() {
         c.promise(20, "q below p");
         DawnFair x = new DawnFair();
-        c.refused(x, n -> x.inside(n[0], n[1], n[2], n[3]), BAD, Check.told(3, 5, 5, 0), 1, 6, 100000);
-        c.refused(x, n -> x.inside(n[0], n[1], n[2], n[3]), BAD, Check.told(3, 5, 5, 1), 2, 4, 0);
+        c.refused(x, sharing(x), BAD, Check.told(3, 5, 5, 0), 1, 6, 100000);
+        c.refused(x, sharing(x), BAD, Check.told(3, 5, 5, 1), 2, 4, 0);
         insideIs("q is p", 3, 5, 5, 0, 0);
         insideIs("q is one above p", 3, 5, 6, 0, 1);
     }
@@ -385,8 +393,8 @@ public final class LotsTest {
     private static void insideMoney() {
         c.promise(20, "p, q 0 .. 100000");
         DawnFair x = new DawnFair();
-        c.refused(x, n -> x.inside(n[0], n[1], n[2], n[3]), BAD, Check.told(3, 0, 100000, 0), 1, -1, 100001, MIN, MAX);
-        c.refused(x, n -> x.inside(n[0], n[1], n[2], n[3]), BAD, Check.told(3, 0, 100000, 0), 2, -1, 100001, MIN, MAX);
+        c.refused(x, sharing(x), BAD, Check.told(3, 0, 100000, 0), 1, -1, 100001, MIN, MAX);
+        c.refused(x, sharing(x), BAD, Check.told(3, 0, 100000, 0), 2, -1, 100001, MIN, MAX);
         c.due("both above", x.inside(3, 100001, 100001, 0), BAD);
         c.due("both below", x.inside(3, -1, -1, 0), BAD);
         insideIs("both the least", 3, 0, 0, 0, 0);
@@ -397,7 +405,7 @@ public final class LotsTest {
     private static void insideWhat() {
         c.promise(20, "What each of a RING but the one has INSIDE (0), and what is left for that one besides what the LOT costs it (1).");
         DawnFair x = new DawnFair();
-        c.refused(x, n -> x.inside(n[0], n[1], n[2], n[3]), BAD, Check.told(3, 1, 9, 0), 3, -1, 2, MIN, MAX);
+        c.refused(x, sharing(x), BAD, Check.told(3, 1, 9, 0), 3, -1, 2, MIN, MAX);
         insideIs("of seven", 254, 100, 199, 14, 15);
     }
 }

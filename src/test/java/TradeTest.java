@@ -57,6 +57,10 @@ public final class TradeTest {
         return x;
     }
 
+    private static Check.Call selling(DawnFair x) {
+        return n -> x.sell(n[0], n[1], n[2], n[3]);
+    }
+
     private static void holdAnswersWhoDid() {
         c.promise(8, "who did (NONE)");
         DawnFair x = Check.withThings(2);
@@ -193,7 +197,7 @@ public final class TradeTest {
     private static void sellPrice() {
         c.promise(11, "BAD: price 0 .. 100000");
         DawnFair x = held(2);
-        c.refused(x, n -> x.sell(n[0], n[1], n[2], n[3]), BAD, Check.told(0, 2, 5, 0), 2, -1, 100001, MIN, MAX);
+        c.refused(x, selling(x), BAD, Check.told(0, 2, 5, 0), 2, -1, 100001, MIN, MAX);
         c.due("for nothing", x.sell(0, 2, 0, 0), 0);
         c.due("for the most", x.sell(1, 2, 100000, 0), 1);
         c.due("its price", x.sale(1, 3), 100000);
@@ -202,7 +206,7 @@ public final class TradeTest {
     private static void sellBack() {
         c.promise(11, "back 0 .. 2000");
         DawnFair x = held(2);
-        c.refused(x, n -> x.sell(n[0], n[1], n[2], n[3]), BAD, Check.told(0, 2, 5, 0), 3, -1, 2001, MIN, MAX);
+        c.refused(x, selling(x), BAD, Check.told(0, 2, 5, 0), 3, -1, 2001, MIN, MAX);
         c.due("the least", x.sell(0, 2, 5, 0), 0);
         c.due("the greatest", x.sell(1, 2, 5, 2000), 1);
         c.due("its back", x.sale(1, 5), 2000);
@@ -211,8 +215,8 @@ public final class TradeTest {
     private static void sellThingAndBuyer() {
         c.promise(11, "DEALERS 0 .. 7.");
         DawnFair x = held(2);
-        c.refused(x, n -> x.sell(n[0], n[1], n[2], n[3]), BAD, Check.told(0, 2, 5, 0), 1, NONE, -2, 8, 32, MIN, MAX);
-        c.refused(x, n -> x.sell(n[0], n[1], n[2], n[3]), BAD, Check.told(0, 2, 5, 0), 0, -1, 2, 11, 12, MIN, MAX);
+        c.refused(x, selling(x), BAD, Check.told(0, 2, 5, 0), 1, NONE, -2, 8, 32, MIN, MAX);
+        c.refused(x, selling(x), BAD, Check.told(0, 2, 5, 0), 0, -1, 2, 11, 12, MIN, MAX);
         c.due("no thing at all", new DawnFair().sell(0, 2, 5, 0), BAD);
         c.due("to the first", x.sell(0, 0, 5, 0), 0);
         c.due("to the last", x.sell(1, 7, 5, 0), 1);
@@ -221,16 +225,16 @@ public final class TradeTest {
     private static void sellHeldByNobody() {
         c.promise(11, "NO: nobody HOLDS it");
         DawnFair x = Check.withThings(1);
-        c.refused(x, n -> x.sell(n[0], n[1], n[2], n[3]), NO, Check.told(0, 2, 5, 0), 1, 0, 2, 7);
+        c.refused(x, selling(x), NO, Check.told(0, 2, 5, 0), 1, 0, 2, 7);
         x.hold(0, 1);
         x.hold(0, NONE);
-        c.refused(x, n -> x.sell(n[0], n[1], n[2], n[3]), NO, Check.told(0, 2, 5, 0), 1, 0, 1, 7);
+        c.refused(x, selling(x), NO, Check.told(0, 2, 5, 0), 1, 0, 1, 7);
     }
 
     private static void sellTheBuyersOwn() {
         c.promise(11, "it is the buyer's");
         DawnFair x = held(1);
-        c.refused(x, n -> x.sell(n[0], n[1], n[2], n[3]), NO, Check.told(0, 1, 5, 0), 3, 0, 5, 2000);
+        c.refused(x, selling(x), NO, Check.told(0, 1, 5, 0), 3, 0, 5, 2000);
         x.sell(0, 2, 5, 0);
         x.hours(1);
         c.due("to who bought it", x.sell(0, 2, 5, 0), NO);
@@ -240,10 +244,10 @@ public final class TradeTest {
     private static void sellBackAboveTheHour() {
         c.promise(11, "back is not 0 nor above THE HOUR");
         DawnFair x = held(2);
-        c.refused(x, n -> x.sell(n[0], n[1], n[2], n[3]), NO, Check.told(0, 2, 5, 0), 3, 1, 2, 3, 4);
+        c.refused(x, selling(x), NO, Check.told(0, 2, 5, 0), 3, 1, 2, 3, 4);
         c.due("the next hour", x.sell(0, 2, 5, 5), 0);
         x.hours(20);
-        c.refused(x, n -> x.sell(n[0], n[1], n[2], n[3]), NO, Check.told(1, 2, 5, 0), 3, 1, 5, 23, 24);
+        c.refused(x, selling(x), NO, Check.told(1, 2, 5, 0), 3, 1, 5, 23, 24);
         c.due("the next hour", x.sell(1, 2, 5, 25), 1);
     }
 
@@ -268,7 +272,7 @@ public final class TradeTest {
         c.promise(11, "A THING is sold once an hour at most.");
         DawnFair x = held(2);
         c.due("sold", x.sell(0, 2, 5, 0), 0);
-        c.refused(x, n -> x.sell(n[0], n[1], n[2], n[3]), NO, Check.told(0, 3, 5, 0), 1, 0, 1, 3, 7);
+        c.refused(x, selling(x), NO, Check.told(0, 3, 5, 0), 1, 0, 1, 3, 7);
         c.due("another thing this hour", x.sell(1, 2, 5, 0), 1);
         x.hours(1);
         c.due("an hour later", x.sell(0, 3, 5, 0), 2);
@@ -280,7 +284,7 @@ public final class TradeTest {
         DawnFair x = held(1);
         x.sell(0, 2, 5, 9);
         x.back(0);
-        c.refused(x, n -> x.sell(n[0], n[1], n[2], n[3]), NO, Check.told(0, 2, 5, 0), 1, 0, 2, 3, 7);
+        c.refused(x, selling(x), NO, Check.told(0, 2, 5, 0), 1, 0, 2, 3, 7);
         x.hours(1);
         c.due("an hour later", x.sell(0, 3, 5, 9), 1);
         x.hours(1);
@@ -305,7 +309,7 @@ public final class TradeTest {
     private static void sellFull() {
         c.promise(11, "A SALE (80 at most)");
         DawnFair x = soldOut();
-        c.refused(x, n -> x.sell(n[0], n[1], n[2], n[3]), FULL, Check.told(11, 2, 5, 0), 1, 0, 2, 7);
+        c.refused(x, selling(x), FULL, Check.told(11, 2, 5, 0), 1, 0, 2, 7);
         c.due("who holds it", x.holder(11), 1);
         c.due("sales", x.count(1), 80);
         c.due("all stand", x.count(2), 80);

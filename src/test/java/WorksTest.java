@@ -55,6 +55,14 @@ public final class WorksTest {
         c.due(what + ", the last year", x.date(0, 1), last);
     }
 
+    private static Check.Call dating(DawnFair x) {
+        return n -> x.work(n[0], n[1], n[2]);
+    }
+
+    private static Check.Call building(DawnFair x) {
+        return n -> x.part(n[0], n[1], n[2]);
+    }
+
     private static void workIsSet() {
         c.promise(2, "Years of a WORK: 1.");
         DawnFair x = pieceOf(512);
@@ -69,7 +77,7 @@ public final class WorksTest {
     private static void workNumber() {
         c.promise(2, "9 have years from .. to");
         DawnFair x = new DawnFair();
-        c.refused(x, n -> x.work(n[0], n[1], n[2]), BAD, Check.told(0, 1700, 1710), 0, -1, 10, 31, 32, MIN, MAX);
+        c.refused(x, dating(x), BAD, Check.told(0, 1700, 1710), 0, -1, 10, 31, 32, MIN, MAX);
         c.due("the first work", x.work(0, 1700, 1710), 1);
         c.due("the last work", x.work(9, 1720, 1730), 1);
         x.thing(2);
@@ -82,8 +90,8 @@ public final class WorksTest {
     private static void workYears() {
         c.promise(2, "(1600 .. 1950; all of these at first)");
         DawnFair x = new DawnFair();
-        c.refused(x, n -> x.work(n[0], n[1], n[2]), BAD, Check.told(3, 1600, 1950), 1, 1599, 1951, 0, -1, MIN, MAX);
-        c.refused(x, n -> x.work(n[0], n[1], n[2]), BAD, Check.told(3, 1600, 1950), 2, 1599, 1951, 0, -1, MIN, MAX);
+        c.refused(x, dating(x), BAD, Check.told(3, 1600, 1950), 1, 1599, 1951, 0, -1, MIN, MAX);
+        c.refused(x, dating(x), BAD, Check.told(3, 1600, 1950), 2, 1599, 1951, 0, -1, MIN, MAX);
         c.due("both below", x.work(3, 1599, 1599), BAD);
         c.due("both above", x.work(3, 1951, 1951), BAD);
         long before = x.digest();
@@ -100,8 +108,8 @@ public final class WorksTest {
     private static void workFromAboveTo() {
         c.promise(2, "BAD: also from above to.");
         DawnFair x = pieceOf(1);
-        c.refused(x, n -> x.work(n[0], n[1], n[2]), BAD, Check.told(0, 1700, 1700), 1, 1701, 1950);
-        c.refused(x, n -> x.work(n[0], n[1], n[2]), BAD, Check.told(0, 1700, 1700), 2, 1699, 1600);
+        c.refused(x, dating(x), BAD, Check.told(0, 1700, 1700), 1, 1701, 1950);
+        c.refused(x, dating(x), BAD, Check.told(0, 1700, 1700), 2, 1699, 1600);
         spanIs("it keeps its years", x, 0, 1600, 1609);
         c.due("from is to", x.work(0, 1700, 1700), 1);
         spanIs("one year", x, 0, 1700, 1700);
@@ -164,7 +172,7 @@ public final class WorksTest {
         c.promise(4, "WORKS of a PART (0 .. 1023)");
         DawnFair x = Check.withThings(1);
         c.due("all works", x.part(0, 0, 1023), 0);
-        c.refused(x, n -> x.part(n[0], n[1], n[2]), BAD, Check.told(0, 0, 1), 2, -1, 1024, 2047, MIN, MAX);
+        c.refused(x, building(x), BAD, Check.told(0, 0, 1), 2, -1, 1024, 2047, MIN, MAX);
         c.due("no works", x.part(0, 0, 0), 1023);
         c.due("as it was emptied", x.part(0, 0, 1), 0);
     }
@@ -177,10 +185,10 @@ public final class WorksTest {
         x.thing(3);
         x.thing(5);
         x.thing(1);
-        c.refused(x, n -> x.part(n[0], n[1], n[2]), BAD, Check.told(0, 0, 1), 0, -1, 3, 11, 12, MIN, MAX);
-        c.refused(x, n -> x.part(n[0], n[1], n[2]), BAD, Check.told(0, 0, 1), 1, -1, 3, 4, 5, MIN, MAX);
-        c.refused(x, n -> x.part(n[0], n[1], n[2]), BAD, Check.told(1, 0, 1), 1, -1, 5, MIN, MAX);
-        c.refused(x, n -> x.part(n[0], n[1], n[2]), BAD, Check.told(2, 0, 1), 1, -1, 1, MIN, MAX);
+        c.refused(x, building(x), BAD, Check.told(0, 0, 1), 0, -1, 3, 11, 12, MIN, MAX);
+        c.refused(x, building(x), BAD, Check.told(0, 0, 1), 1, -1, 3, 4, 5, MIN, MAX);
+        c.refused(x, building(x), BAD, Check.told(1, 0, 1), 1, -1, 5, MIN, MAX);
+        c.refused(x, building(x), BAD, Check.told(2, 0, 1), 1, -1, 1, MIN, MAX);
     }
 
     private static void spanOfWorks() {
