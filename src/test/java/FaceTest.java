@@ -19,6 +19,7 @@ public final class FaceTest {
     public static void main(String[] args) {
         constants();
         face();
+        classesInside();
         newObject();
         yearsAtFirst();
         heldByNoneAtFirst();
@@ -62,6 +63,20 @@ public final class FaceTest {
         c.holds("fields that are not private: " + fields, fields.equals(Set.of("NONE", "BAD", "NO", "FULL")));
         Constructor<?>[] made = DawnFair.class.getDeclaredConstructors();
         c.holds("one public constructor", made.length == 1 && Modifier.isPublic(made[0].getModifiers()));
+    }
+
+    private static void classesInside() {
+        for (Class<?> inside : DawnFair.class.getDeclaredClasses()) {
+            int modifiers = inside.getModifiers();
+            c.holds(inside.getName() + " is static", Modifier.isStatic(modifiers));
+            c.holds(inside.getName() + " is not in the face",
+                !Modifier.isPublic(modifiers) && !Modifier.isProtected(modifiers));
+            int fields = 0;
+            for (Field f : inside.getDeclaredFields()) {
+                fields += Modifier.isStatic(f.getModifiers()) ? 0 : 1;
+            }
+            c.holds(inside.getName() + " has twenty fields at most", fields <= 20);
+        }
     }
 
     private static void newObject() {

@@ -32,7 +32,15 @@ public final class LanguageTest {
         }
         c.holds("twelve classes at most", found <= 12);
         methodsAreShort(c, code);
+        callsMakeNothing(c, code);
         c.end();
+    }
+
+    /** All objects of a run live in one room: what an object needs is made with it, and no call makes more. */
+    private static void callsMakeNothing(Check c, String code) {
+        code.lines().filter(line -> line.matches(".*\\bnew\\b.*")).forEach(line ->
+            c.holds("made with the object:" + line, line.matches(" +private final \\S+ \\w+ = new .*;")));
+        c.holds("no array is copied", !Pattern.compile("\\bclone\\(|copyOf").matcher(code).find());
     }
 
     private static void methodsAreShort(Check c, String code) {

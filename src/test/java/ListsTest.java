@@ -434,7 +434,7 @@ public final class ListsTest {
         x.owe(0, 2, 10);
         x.owe(1, 2, 10);
         x.owe(2, 1, 10);
-        c.due("both fall by the first", x.fall(0, 0), 1);
+        c.due("each is held up by the other", x.fall(0, 0), 1);
         x.owe(1, 3, 10);
         x.owe(2, 3, 10);
         c.due("both of a round", x.fall(0, 5), 7);
